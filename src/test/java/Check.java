@@ -1,0 +1,34 @@
+/** Counts and prints the calls whose answer is not the one that is due. */
+final class Check {
+    interface Call {
+        void run();
+    }
+
+    private int checked = 0;
+    private int wrong = 0;
+
+    void same(String call, Object got, Object due) {
+        checked++;
+        if (!String.valueOf(got).equals(String.valueOf(due))) {
+            wrong++;
+            System.out.println(call + " answered " + got + ", due is " + due);
+        }
+    }
+
+    void thrown(String call, Class<? extends RuntimeException> due, Call made) {
+        String got = "nothing";
+        try {
+            made.run();
+        } catch (RuntimeException e) {
+            got = e.getClass().getName();
+        }
+        same(call + " throws", got, due.getName());
+    }
+
+    void finish() {
+        System.out.println(checked + " answers looked at, " + wrong + " not as due");
+        if (wrong != 0 || checked == 0) {
+            System.exit(1);
+        }
+    }
+}

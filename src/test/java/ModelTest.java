@@ -1,0 +1,99 @@
+import java.util.Arrays;
+
+/** Compares the class with the plain model, call by call, over runs that are the same each time. */
+public final class ModelTest {
+    private static final int RUNS = 80;
+    private static final int CALLS = 512;
+
+    private static long seed;
+
+    private ModelTest() {
+    }
+
+    private static int below(int bound) {
+        seed = seed * 6364136223846793005L + 1442695040888963407L;
+        return (int) ((seed >>> 33) % bound);
+    }
+
+    /** From 0 to bound - 1, but now and then one outside. */
+    private static int about(int bound) {
+        switch (below(40)) {
+            case 0: return -1;
+            case 1: return bound;
+            case 2: return below(2) == 0 ? Integer.MIN_VALUE : Integer.MAX_VALUE;
+            default: return bound <= 0 ? 0 : below(bound);
+        }
+    }
+
+    public static void main(String[] args) {
+        Check check = new Check();
+        for (int run = 0; run < RUNS; run++) {
+            seed = run;
+            compare(check, run, CALLS);
+        }
+        check.finish();
+    }
+
+    private static void compare(Check check, int run, int calls) {
+        EditGraph graph = new EditGraph();
+        PlainModel model = new PlainModel();
+        // Runs that edit seldom stay far from the 60 events, and have more to exchange.
+        int editShare = 5 + run % 8 * 10;
+        for (int call = 0; call < calls; call++) {
+            boolean edits = below(100) < editShare;
+            int author = about(4);
+            int length = author >= 0 && author < 4 ? model.length(author) : 0;
+            String name = edits ? editName() : askName();
+            int[] numbers = numbersFor(name, author, length, model.events());
+            String told = "run " + run + ", call " + call + ": " + name + Arrays.toString(numbers);
+            check.same(told, Calls.answer(graph, name, numbers), Calls.answer(model, name, numbers));
+            // All questions are dear to ask the model, so not behind every call.
+            if (call == 64 || call == 160) {
+                check.same("all after " + told, Calls.everything(graph), Calls.everything(model));
+            }
+        }
+        check.same("all after run " + run, Calls.everything(graph), Calls.everything(model));
+    }
+
+    private static String editName() {
+        int drawn = below(10);
+        return drawn < 5 ? "insert" : drawn < 7 ? "delete" : drawn < 9 ? "learn" : "learnEvent";
+    }
+
+    private static String askName() {
+        String[] names = {"events", "length", "letterAt", "letterByList", "eventAt", "lengthOf", "letterOf",
+            "lettersBy", "authorOf", "parents", "isLater", "version", "heads", "commonHeads", "concurrent",
+            "critical", "toReplay", "runs"};
+        return names[below(names.length)];
+    }
+
+    private static int[] numbersFor(String name, int author, int length, int events) {
+        switch (name) {
+            case "events":
+                return new int[] {};
+            case "insert":
+                // Typing on at the end makes the longer runs.
+                return new int[] {author, below(2) == 0 ? length : about(length + 1), about(26)};
+            case "delete":
+            case "letterAt":
+            case "letterByList":
+            case "eventAt":
+                return new int[] {author, about(length)};
+            case "learn":
+            case "lettersBy":
+            case "commonHeads":
+                return new int[] {author, about(4)};
+            case "learnEvent":
+                return new int[] {author, about(events)};
+            case "lengthOf":
+            case "authorOf":
+            case "parents":
+                return new int[] {about(events)};
+            case "letterOf":
+            case "isLater":
+                return new int[] {about(events), about(events)};
+            default:
+                return new int[] {author};
+        }
+    }
+}
