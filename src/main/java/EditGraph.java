@@ -305,11 +305,8 @@ public final class EditGraph {
         targets[event] = target;
         parentSets[event] = headsOf(known);
         ancestorSets[event] = known;
-        laterSets[event] = 0L;
         markLater(known, event);
         knownSets[author] = known | only(event);
-        firstHanging[event] = NONE;
-        nextBeside[event] = NONE;
         eventCount++;
         return event;
     }
@@ -323,6 +320,7 @@ public final class EditGraph {
     }
 
     private void hangLetter(int event, int hangsAt) {
+        firstHanging[event] = NONE;
         if (isEvent(hangsAt)) {
             nextBeside[event] = firstHanging[hangsAt];
             firstHanging[hangsAt] = event;

@@ -175,6 +175,8 @@ public final class PromiseTest {
         check.same("heads, full", x.heads(1), 1L << 59);
         check.same("runs, full", x.runs(1), 1);
         check.same("eventAt, full", x.eventAt(1, 59), 59);
+        check.same("letterAt, full", x.letterAt(1, 59), 7);
+        check.same("letterByList, full", x.letterByList(1, 59), 7);
         EditGraph ahead = new EditGraph();
         for (int event = 0; event < 60; event++) {
             ahead.insert(event % 4, 0, event % 26);
@@ -390,6 +392,11 @@ public final class PromiseTest {
         x.insert(0, 0, 5);
         check.same("critical after a merge", x.critical(0), 35L);
         check.same("toReplay after a merge", x.toReplay(0), 0);
+        x.learnEvent(3, 0);
+        x.insert(3, 0, 7);
+        x.learn(3, 0);
+        check.same("critical is the first one only", x.critical(3), 1L);
+        check.same("toReplay of all but the first one", x.toReplay(3), 6);
         x.insert(2, 0, 6);
         x.learn(0, 2);
         check.same("no critical one", x.critical(0), 0L);
