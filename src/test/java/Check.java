@@ -1,3 +1,5 @@
+import java.util.List;
+
 /** Counts and prints the calls whose answer is not the one that is due. */
 final class Check {
     interface Call {
@@ -12,6 +14,14 @@ final class Check {
         if (!String.valueOf(got).equals(String.valueOf(due))) {
             wrong++;
             System.out.println(call + " answered " + got + ", due is " + due);
+        }
+    }
+
+    /** The same for answers one below the other: prints those that differ. */
+    void sameLines(String call, List<String> got, List<String> due) {
+        same(call + ", number of answers", got.size(), due.size());
+        for (int i = 0; i < Math.min(got.size(), due.size()); i++) {
+            same(call + ": " + due.get(i) + ",", got.get(i), due.get(i));
         }
     }
 

@@ -8,6 +8,8 @@ import java.nio.file.Path;
 import java.util.Arrays;
 import java.util.Set;
 import java.util.TreeSet;
+import java.util.regex.Matcher;
+import java.util.regex.Pattern;
 
 /** Looks at the public face, and at what LANGUAGE.md rules out and a search can see. */
 public final class FaceTest {
@@ -40,9 +42,23 @@ public final class FaceTest {
         "int runs(int) throws " + I,
     };
 
+    /** Patterns that LANGUAGE.md rules out, each behind the number of its rule, sought in the code alone. */
     private static final String[] RULED_OUT = {
-        "import ", "package ", "catch", "->", "::", "synchronized", "assert ", "static {", "finally",
-        "System.out", "Object", "Exact("};
+        "1 \\bpackage\\b",
+        "2 [\\w)]\\s*->(?<!case [-\\w, ]{1,80}->)(?<!default ->)",
+        "2 ::",
+        "3 \\bObject\\b",
+        "4 \\bimport (?!java\\.util\\.(ArrayList|List|Iterator|Arrays|NoSuchElementException);)",
+        "4 \\bSystem\\.(?!arraycopy\\b)",
+        "4 Exact\\(",
+        "5 \\bstatic \\{",
+        "6 \\bthrow (?!new (IllegalState|IllegalArgument|IndexOutOfBounds|Arithmetic|UnsupportedOperation|NoSuchElement"
+            + "|Runtime)Exception\\((\"\")?\\);)",
+        "6 \\bcatch \\((Exception|RuntimeException|Throwable|Error|Array\\w+|Null\\w+|ClassCast\\w+|Negative\\w+)\\b",
+        "6 \\b(finally|synchronized|assert|int hashCode|String toString)\\b",
+        "10 \" \\+|\\+ \"",
+        "13 \\b(Random|Thread|Runtime|File)\\b",
+    };
 
     private FaceTest() {
     }
@@ -50,11 +66,18 @@ public final class FaceTest {
     public static void main(String[] args) throws IOException {
         Check check = new Check();
         checkMembers(check);
-        String source = Files.readString(Path.of("src/main/java/EditGraph.java"));
-        for (String word : RULED_OUT) {
-            check.same("the source has '" + word + "'", source.contains(word), false);
+        String code = codeAlone(Files.readString(Path.of("src/main/java/EditGraph.java")));
+        for (String rule : RULED_OUT) {
+            String pattern = rule.substring(rule.indexOf(' ') + 1);
+            Matcher found = Pattern.compile(pattern).matcher(code);
+            check.same("what LANGUAGE.md rules out by its rule " + rule, found.find() ? found.group() : "nothing", "nothing");
         }
         check.finish();
+    }
+
+    /** The source without its comments, and with its texts empty. */
+    private static String codeAlone(String source) {
+        return source.replaceAll("(?s)/\\*.*?\\*/", "").replaceAll("//.*", "").replaceAll("\"[^\"\n]*\"", "\"\"");
     }
 
     private static void checkMembers(Check check) {

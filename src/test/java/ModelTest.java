@@ -1,9 +1,10 @@
-import java.util.Arrays;
+import java.util.ArrayList;
+import java.util.List;
 
 /** Compares the class with the plain model, call by call, over runs that are the same each time. */
 public final class ModelTest {
     private static final int RUNS = 80;
-    private static final int CALLS = 512;
+    private static final List<String> EDITS = List.of("insert", "delete", "learn", "learnEvent");
 
     private static long seed;
 
@@ -29,30 +30,39 @@ public final class ModelTest {
         Check check = new Check();
         for (int run = 0; run < RUNS; run++) {
             seed = run;
-            compare(check, run, CALLS);
+            compare(check, run);
         }
         check.finish();
     }
 
-    private static void compare(Check check, int run, int calls) {
+    private static void compare(Check check, int run) {
         EditGraph graph = new EditGraph();
         PlainModel model = new PlainModel();
+        List<Call> edits = new ArrayList<>();
         // Runs that edit seldom stay far from the 60 events, and have more to exchange.
         int editShare = 5 + run % 8 * 10;
-        for (int call = 0; call < calls; call++) {
-            boolean edits = below(100) < editShare;
-            int author = about(4);
-            int length = author >= 0 && author < 4 ? model.length(author) : 0;
-            String name = edits ? editName() : askName();
-            int[] numbers = numbersFor(name, author, length, model.events());
-            String told = "run " + run + ", call " + call + ": " + name + Arrays.toString(numbers);
-            check.same(told, Calls.answer(graph, name, numbers), Calls.answer(model, name, numbers));
+        for (int number = 1; number <= Questions.MOST_CALLS; number++) {
+            Call call = drawCall(editShare, model);
+            String told = "run " + run + ", call " + number + ": " + call;
+            String due = call.answer(model);
+            check.same(told, call.answer(graph), due);
+            if (EDITS.contains(call.name()) && !due.startsWith("throws.")) {
+                edits.add(call);
+            }
             // All questions are dear to ask the model, so not behind every call.
-            if (call == 64 || call == 160) {
-                check.same("all after " + told, Calls.everything(graph), Calls.everything(model));
+            if (number == 64 || number == 160 || number == Questions.MOST_CALLS) {
+                List<Call> all = Questions.about(model.events());
+                check.sameLines("all after " + told, Questions.answers(edits, all), Questions.modelAnswers(model, all));
             }
         }
-        check.same("all after run " + run, Calls.everything(graph), Calls.everything(model));
+    }
+
+    private static Call drawCall(int editShare, PlainModel model) {
+        boolean edits = below(100) < editShare;
+        int author = about(4);
+        int length = author >= 0 && author < 4 ? model.length(author) : 0;
+        String name = edits ? editName() : askName();
+        return new Call(name, numbersFor(name, author, length, model.events()));
     }
 
     private static String editName() {

@@ -22,6 +22,16 @@ final class PlainModel {
         }
     }
 
+    /** Another model in the same state, which goes its own way from here on. */
+    PlainModel copy() {
+        PlainModel copy = new PlainModel();
+        copy.made.addAll(made);
+        for (int author = 0; author < 4; author++) {
+            copy.known(author).addAll(known(author));
+        }
+        return copy;
+    }
+
     int insert(int author, int place, int letter) {
         List<Integer> text = textOf(known(author));
         need(place >= 0 && place <= text.size());

@@ -73,12 +73,6 @@ public final class PromiseTest {
         return x;
     }
 
-    private void unchanged(EditGraph x, Class<? extends RuntimeException> due, String call, Check.Call made) {
-        String ahead = Calls.everything(x);
-        check.thrown(call, due, made);
-        check.same("all after " + call, Calls.everything(x), ahead);
-    }
-
     private void promise1NewObject() {
         EditGraph x = new EditGraph();
         check.same("events", x.events(), 0);
@@ -107,16 +101,16 @@ public final class PromiseTest {
         check.same("insert of another author", x.insert(0, 0, 4), 4);
         check.same("parents", x.parents(4), 0L);
         check.same("text", text(x, 0), "e");
-        unchanged(x, INDEX, "insert(4, 0, 0)", () -> x.insert(4, 0, 0));
-        unchanged(x, INDEX, "insert(-1, 0, 0)", () -> x.insert(-1, 0, 0));
-        unchanged(x, INDEX, "insert(3, 5, 0)", () -> x.insert(3, 5, 0));
-        unchanged(x, INDEX, "insert(3, -1, 0)", () -> x.insert(3, -1, 0));
-        unchanged(x, INDEX, "insert at the greatest int", () -> x.insert(3, Integer.MAX_VALUE, 0));
-        unchanged(x, INDEX, "insert(0, 2, 0)", () -> x.insert(0, 2, 0));
-        unchanged(x, ARGUMENT, "insert(3, 0, 26)", () -> x.insert(3, 0, 26));
-        unchanged(x, ARGUMENT, "insert(3, 4, -1)", () -> x.insert(3, 4, -1));
-        unchanged(x, INDEX, "insert(3, 5, 26)", () -> x.insert(3, 5, 26));
-        unchanged(x, INDEX, "insert(4, 0, 26)", () -> x.insert(4, 0, 26));
+        check.thrown("insert(4, 0, 0)", INDEX, () -> x.insert(4, 0, 0));
+        check.thrown("insert(-1, 0, 0)", INDEX, () -> x.insert(-1, 0, 0));
+        check.thrown("insert(3, 5, 0)", INDEX, () -> x.insert(3, 5, 0));
+        check.thrown("insert(3, -1, 0)", INDEX, () -> x.insert(3, -1, 0));
+        check.thrown("insert at the greatest int", INDEX, () -> x.insert(3, Integer.MAX_VALUE, 0));
+        check.thrown("insert(0, 2, 0)", INDEX, () -> x.insert(0, 2, 0));
+        check.thrown("insert(3, 0, 26)", ARGUMENT, () -> x.insert(3, 0, 26));
+        check.thrown("insert(3, 4, -1)", ARGUMENT, () -> x.insert(3, 4, -1));
+        check.thrown("insert(3, 5, 26)", INDEX, () -> x.insert(3, 5, 26));
+        check.thrown("insert(4, 0, 26)", INDEX, () -> x.insert(4, 0, 26));
         check.same("the next insert", x.insert(3, 4, 3), 5);
         insertHangsAtWhatIsSeen();
     }
@@ -137,7 +131,7 @@ public final class PromiseTest {
 
     private void promise3Delete() {
         EditGraph x = new EditGraph();
-        unchanged(x, INDEX, "delete of an empty text", () -> x.delete(0, 0));
+        check.thrown("delete of an empty text", INDEX, () -> x.delete(0, 0));
         type(x, 0, 0, "abcd");
         x.learn(1, 0);
         check.same("delete", x.delete(0, 1), 4);
@@ -146,10 +140,10 @@ public final class PromiseTest {
         check.same("delete of the first one", x.delete(0, 0), 6);
         check.same("text", text(x, 0), "c");
         check.same("text of another author", text(x, 1), "abcd");
-        unchanged(x, INDEX, "delete(0, 1)", () -> x.delete(0, 1));
-        unchanged(x, INDEX, "delete(0, -1)", () -> x.delete(0, -1));
-        unchanged(x, INDEX, "delete(4, 0)", () -> x.delete(4, 0));
-        unchanged(x, INDEX, "delete(-1, 0)", () -> x.delete(-1, 0));
+        check.thrown("delete(0, 1)", INDEX, () -> x.delete(0, 1));
+        check.thrown("delete(0, -1)", INDEX, () -> x.delete(0, -1));
+        check.thrown("delete(4, 0)", INDEX, () -> x.delete(4, 0));
+        check.thrown("delete(-1, 0)", INDEX, () -> x.delete(-1, 0));
         // Two deletes of one letter take it away once.
         check.same("delete of the same letter", x.delete(1, 1), 7);
         x.learn(0, 1);
@@ -161,14 +155,14 @@ public final class PromiseTest {
     private void promises2And3Full() {
         EditGraph x = full();
         check.same("events", x.events(), 60);
-        unchanged(x, STATE, "insert of the 61st", () -> x.insert(0, 60, 0));
-        unchanged(x, STATE, "insert of the 61st by another one", () -> x.insert(1, 0, 0));
-        unchanged(x, ARGUMENT, "insert of no letter, full", () -> x.insert(0, 60, 26));
-        unchanged(x, INDEX, "insert at no place, full", () -> x.insert(0, 61, 26));
-        unchanged(x, INDEX, "insert by no author, full", () -> x.insert(4, 0, 0));
-        unchanged(x, STATE, "delete of the 61st", () -> x.delete(0, 59));
-        unchanged(x, INDEX, "delete at no place, full", () -> x.delete(0, 60));
-        unchanged(x, INDEX, "delete of an empty text, full", () -> x.delete(1, 0));
+        check.thrown("insert of the 61st", STATE, () -> x.insert(0, 60, 0));
+        check.thrown("insert of the 61st by another one", STATE, () -> x.insert(1, 0, 0));
+        check.thrown("insert of no letter, full", ARGUMENT, () -> x.insert(0, 60, 26));
+        check.thrown("insert at no place, full", INDEX, () -> x.insert(0, 61, 26));
+        check.thrown("insert by no author, full", INDEX, () -> x.insert(4, 0, 0));
+        check.thrown("delete of the 61st", STATE, () -> x.delete(0, 59));
+        check.thrown("delete at no place, full", INDEX, () -> x.delete(0, 60));
+        check.thrown("delete of an empty text, full", INDEX, () -> x.delete(1, 0));
         check.same("learn, full", x.learn(1, 0), 60);
         check.same("version, full", x.version(1), (1L << 60) - 1);
         check.same("critical, full", x.critical(1), (1L << 60) - 1);
@@ -200,9 +194,9 @@ public final class PromiseTest {
         check.same("version", x.version(0), 7L);
         check.same("text", text(x, 0), "cab");
         check.same("events", x.events(), 3);
-        unchanged(x, INDEX, "learn(0, 4)", () -> x.learn(0, 4));
-        unchanged(x, INDEX, "learn(4, 0)", () -> x.learn(4, 0));
-        unchanged(x, INDEX, "learn(-1, -1)", () -> x.learn(-1, -1));
+        check.thrown("learn(0, 4)", INDEX, () -> x.learn(0, 4));
+        check.thrown("learn(4, 0)", INDEX, () -> x.learn(4, 0));
+        check.thrown("learn(-1, -1)", INDEX, () -> x.learn(-1, -1));
     }
 
     private void promise5LearnEvent() {
@@ -219,9 +213,9 @@ public final class PromiseTest {
         check.same("learnEvent of his own", x.learnEvent(1, 3), 0);
         check.same("learnEvent of one", x.learnEvent(3, 2), 1);
         check.same("text", text(x, 3), "c");
-        unchanged(x, INDEX, "learnEvent(3, 4)", () -> x.learnEvent(3, 4));
-        unchanged(x, INDEX, "learnEvent(3, -1)", () -> x.learnEvent(3, -1));
-        unchanged(x, INDEX, "learnEvent(4, 0)", () -> x.learnEvent(4, 0));
+        check.thrown("learnEvent(3, 4)", INDEX, () -> x.learnEvent(3, 4));
+        check.thrown("learnEvent(3, -1)", INDEX, () -> x.learnEvent(3, -1));
+        check.thrown("learnEvent(4, 0)", INDEX, () -> x.learnEvent(4, 0));
     }
 
     private void promise6Events() {
@@ -451,11 +445,11 @@ public final class PromiseTest {
         EditGraph x = new EditGraph();
         x.insert(0, 0, 0);
         for (int no : NO_AUTHORS) {
-            unchanged(x, INDEX, "insert", () -> x.insert(no, 0, 0));
-            unchanged(x, INDEX, "delete", () -> x.delete(no, 0));
-            unchanged(x, INDEX, "learn", () -> x.learn(no, 0));
-            unchanged(x, INDEX, "learn", () -> x.learn(1, no));
-            unchanged(x, INDEX, "learnEvent", () -> x.learnEvent(no, 0));
+            check.thrown("insert", INDEX, () -> x.insert(no, 0, 0));
+            check.thrown("delete", INDEX, () -> x.delete(no, 0));
+            check.thrown("learn", INDEX, () -> x.learn(no, 0));
+            check.thrown("learn", INDEX, () -> x.learn(1, no));
+            check.thrown("learnEvent", INDEX, () -> x.learnEvent(no, 0));
             check.thrown("length", INDEX, () -> x.length(no));
             check.thrown("letterAt", INDEX, () -> x.letterAt(no, 0));
             check.thrown("letterByList", INDEX, () -> x.letterByList(no, 0));
@@ -477,7 +471,7 @@ public final class PromiseTest {
         EditGraph x = new EditGraph();
         x.insert(0, 0, 0);
         for (int no : new int[] {-1, 1, 60, 64, Integer.MIN_VALUE, Integer.MAX_VALUE}) {
-            unchanged(x, INDEX, "learnEvent", () -> x.learnEvent(1, no));
+            check.thrown("learnEvent", INDEX, () -> x.learnEvent(1, no));
             check.thrown("lengthOf", INDEX, () -> x.lengthOf(no));
             check.thrown("letterOf", INDEX, () -> x.letterOf(no, 0));
             check.thrown("letterOf", INDEX, () -> x.letterOf(0, no));
