@@ -66,7 +66,8 @@ public final class CriticalEdgeTest extends EdgeCases {
     }
 
     void promise21SetsReachBit59() {
-        Asked x = asked().row(0, 31).after("learn 1 0; insert 0 0 0; insert 1 0 0; learn 0 1").due("critical 0", (1L << 31) - 1);
+        Asked x = asked().row(0, 31).after("learn 1 0; insert 0 0 0; insert 1 0 0; learn 0 1")
+            .due("critical 0", (1L << 31) - 1);
         x.after("insert 0 0 0").due("critical 0", (1L << 31) - 1 | 1L << 33);
         Asked y = asked();
         for (int event = 0; event < 59; event++) {

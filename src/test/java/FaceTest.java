@@ -70,7 +70,8 @@ public final class FaceTest {
         for (String rule : RULED_OUT) {
             String pattern = rule.substring(rule.indexOf(' ') + 1);
             Matcher found = Pattern.compile(pattern).matcher(code);
-            check.same("what LANGUAGE.md rules out by its rule " + rule, found.find() ? found.group() : "nothing", "nothing");
+            String seen = found.find() ? found.group() : "nothing";
+            check.same("what LANGUAGE.md rules out by its rule " + rule, seen, "nothing");
         }
         check.finish();
     }
