@@ -13,6 +13,13 @@ record Call(String name, int... numbers) {
     static final String ARGUMENT = "throws.IllegalArgumentException";
     static final String STATE = "throws.IllegalStateException";
 
+    /** The names in the order of the promises; the first one's is promise 2. */
+    static final List<String> NAMES = List.of("insert", "delete", "learn", "learnEvent", "events", "length", "letterAt",
+        "letterByList", "eventAt", "lengthOf", "letterOf", "lettersBy", "authorOf", "parents", "isLater", "version",
+        "heads", "commonHeads", "concurrent", "critical", "toReplay", "runs");
+    static final List<String> EDITS = NAMES.subList(0, NAMES.indexOf("events"));
+    static final List<String> QUESTIONS = NAMES.subList(NAMES.indexOf("events"), NAMES.size());
+
     private static final Map<String, Method> METHODS = new HashMap<>();
 
     /** The numbers may be min and max too, the ends of the range of int. */
@@ -42,6 +49,11 @@ record Call(String name, int... numbers) {
             }
         }
         return calls;
+    }
+
+    /** The number of the promise that the call belongs to. */
+    int promise() {
+        return NAMES.indexOf(name) + 2;
     }
 
     /** The answer as a text, or the name of the exception behind "throws.". */

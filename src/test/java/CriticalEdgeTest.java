@@ -1,5 +1,5 @@
 /** The boundary cases of promises 21 to 23: critical events, what has to be replayed, and runs. */
-public final class CriticalEdgeTest extends EdgeCases {
+public final class CriticalEdgeTest extends PromiseCases {
     private static final long ALL_60 = (1L << 60) - 1;
 
     private CriticalEdgeTest() {
@@ -17,8 +17,8 @@ public final class CriticalEdgeTest extends EdgeCases {
     // ---- promise 21: critical
 
     void promise21AuthorsAre0To3() {
-        asked().after("insert 0 0 0; insert 1 0 1; insert 2 0 2; insert 3 0 3").due("critical 0", 1).due("critical 1", 2)
-            .due("critical 2", 4).due("critical 3", 8);
+        asked().after("insert 0 0 0; insert 1 0 1; insert 2 0 2; insert 3 0 3").due("critical 0", 1)
+            .due("critical 1", 2).due("critical 2", 4).due("critical 3", 8);
     }
 
     void promise21NoOtherAuthor() {
@@ -79,7 +79,8 @@ public final class CriticalEdgeTest extends EdgeCases {
     // ---- promise 22: toReplay
 
     void promise22AuthorsAre0To3() {
-        Asked x = asked().after("insert 0 0 0; insert 1 0 1; insert 2 0 2; insert 3 0 3; learn 3 0; learn 0 3; learn 0 1");
+        Asked x = asked().after("insert 0 0 0; insert 1 0 1; insert 2 0 2; insert 3 0 3");
+        x.after("learn 3 0; learn 0 3; learn 0 1");
         x.due("toReplay 0", 3).due("toReplay 1; toReplay 2", 0).due("toReplay 3", 2);
     }
 
@@ -192,12 +193,14 @@ public final class CriticalEdgeTest extends EdgeCases {
 
     void promise23AnInsertWithTwoParentsBeginsARun() {
         // It hangs at the letter of its author's last event, but the other parent is event 2.
-        asked().row(0, 2).row(2, 1).after("learn 0 2; insert 0 3 0").due("heads 0", 8).due("parents 3", 6).due("runs 0", 3);
+        asked().row(0, 2).row(2, 1).after("learn 0 2; insert 0 3 0").due("heads 0", 8).due("parents 3", 6)
+            .due("runs 0", 3);
     }
 
     void promise23AnInsertWithAnotherOnlyParentBeginsARun() {
         // Event 2 hangs at the letter of event 0, of the same author; its parent is event 1.
-        asked().row(0, 1).after("learn 1 0; insert 1 1 1; learn 0 1; insert 0 1 2").due("parents 2", 2).due("runs 0", 3);
+        asked().row(0, 1).after("learn 1 0; insert 1 1 1; learn 0 1; insert 0 1 2").due("parents 2", 2)
+            .due("runs 0", 3);
     }
 
     void promise23ARunMayBeginAnywhere() {

@@ -1,5 +1,5 @@
 /** The boundary cases of promises 1 to 6: a new object, edits and exchange. */
-public final class EditsEdgeTest extends EdgeCases {
+public final class EditsEdgeTest extends PromiseCases {
     private EditsEdgeTest() {
     }
 
@@ -128,7 +128,8 @@ public final class EditsEdgeTest extends EdgeCases {
     }
 
     void promise2NoOtherLetter() {
-        asked().due("insert 0 0 -1; insert 0 0 26; insert 0 0 min; insert 0 0 max", Call.ARGUMENT).due("insert 0 0 25", 0);
+        asked().due("insert 0 0 -1; insert 0 0 26; insert 0 0 min; insert 0 0 max", Call.ARGUMENT)
+            .due("insert 0 0 25", 0);
     }
 
     void promise2ReturnsTheNumbersFrom0On() {
@@ -350,8 +351,9 @@ public final class EditsEdgeTest extends EdgeCases {
     // ---- promise 6: events
 
     void promise6CountsTheEditsOfAllAuthors() {
-        Asked x = asked().due("events", 0).after("insert 0 0 0").due("events", 1).after("insert 3 0 0").due("events", 2);
-        x.after("delete 0 0").due("events", 3).after("delete 3 0").due("events", 4);
+        Asked x = asked().due("events", 0).after("insert 0 0 0").due("events", 1);
+        x.after("insert 3 0 0").due("events", 2).after("delete 0 0").due("events", 3);
+        x.after("delete 3 0").due("events", 4);
     }
 
     void promise6LearningMakesNoEvent() {

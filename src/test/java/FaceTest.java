@@ -17,6 +17,7 @@ public final class FaceTest {
     private static final String A = "java.lang.IllegalArgumentException";
     private static final String S = "java.lang.IllegalStateException";
 
+    /** The methods in the order of the promises; the first one's is promise 2. */
     private static final String[] FACE = {
         "int insert(int,int,int) throws " + I + "," + A + "," + S,
         "int delete(int,int) throws " + I + "," + S,
@@ -82,7 +83,8 @@ public final class FaceTest {
     }
 
     private static void checkMembers(Check check) {
-        check.same("modifiers of the class", Modifier.toString(EditGraph.class.getModifiers()), "public final");
+        String classModifiers = Modifier.toString(EditGraph.class.getModifiers());
+        check.same("promises 1 to 23: modifiers of the class", classModifiers, "public final");
         Set<String> found = new TreeSet<>();
         Set<String> publicNames = new TreeSet<>();
         Set<String> privateNames = new TreeSet<>();
@@ -94,23 +96,23 @@ public final class FaceTest {
                 publicNames.add(method.getName());
             }
         }
-        Set<String> due = new TreeSet<>();
-        for (String method : FACE) {
-            due.add("public " + method);
+        for (int i = 0; i < FACE.length; i++) {
+            String method = "public " + FACE[i];
+            check.same("promise " + (i + 2) + ": the face has " + method, found.remove(method), true);
         }
-        check.same("the methods", found, due);
+        check.same("promises 1 to 23: other methods of the face", found, new TreeSet<>());
         privateNames.retainAll(publicNames);
-        check.same("private methods with a public one's name", privateNames, new TreeSet<>());
+        check.same("promises 1 to 23: private methods with a public one's name", privateNames, new TreeSet<>());
         for (Field field : EditGraph.class.getDeclaredFields()) {
             String modifiers = Modifier.toString(field.getModifiers());
             if (field.getName().equals("NONE")) {
-                check.same("NONE is", modifiers + " " + field.getType(), "public static final int");
+                check.same("promise 1: NONE is", modifiers + " " + field.getType(), "public static final int");
             } else {
                 check.same(field.getName() + " is private", modifiers.startsWith("private"), true);
             }
         }
         Constructor<?>[] constructors = EditGraph.class.getDeclaredConstructors();
-        check.same("the constructors", Arrays.toString(constructors), "[public EditGraph()]");
+        check.same("promise 1: the constructors", Arrays.toString(constructors), "[public EditGraph()]");
     }
 
     private static String told(Method method) {

@@ -1,5 +1,5 @@
 /** The boundary cases of promises 14 to 20: the graph. */
-public final class GraphEdgeTest extends EdgeCases {
+public final class GraphEdgeTest extends PromiseCases {
     private static final long ALL_60 = (1L << 60) - 1;
 
     private GraphEdgeTest() {
@@ -264,6 +264,7 @@ public final class GraphEdgeTest extends EdgeCases {
 
     void promise20FourRowsOf15HaveTheMost() {
         // 60 * 59 / 2 pairs, less 4 * (15 * 14 / 2) in the rows.
-        asked().fullOfFourRows().after("learn 0 1; learn 0 2; learn 0 3").due("concurrent 0", 1350).due("concurrent 1", 0);
+        asked().fullOfFourRows().after("learn 0 1; learn 0 2; learn 0 3").due("concurrent 0", 1350)
+            .due("concurrent 1", 0);
     }
 }

@@ -4,38 +4,26 @@ import java.util.List;
 /** Compares the class with the plain model, call by call, over runs that are the same each time. */
 public final class ModelTest {
     private static final int RUNS = 80;
-    private static final List<String> EDITS = List.of("insert", "delete", "learn", "learnEvent");
 
-    private static long seed;
+    private final Check check;
+    private final int run;
+    private final Draw draw;
 
-    private ModelTest() {
-    }
-
-    private static int below(int bound) {
-        seed = seed * 6364136223846793005L + 1442695040888963407L;
-        return (int) ((seed >>> 33) % bound);
-    }
-
-    /** From 0 to bound - 1, but now and then one outside. */
-    private static int about(int bound) {
-        switch (below(40)) {
-            case 0: return -1;
-            case 1: return bound;
-            case 2: return below(2) == 0 ? Integer.MIN_VALUE : Integer.MAX_VALUE;
-            default: return bound <= 0 ? 0 : below(bound);
-        }
+    private ModelTest(Check check, int run) {
+        this.check = check;
+        this.run = run;
+        draw = new Draw(run);
     }
 
     public static void main(String[] args) {
         Check check = new Check();
         for (int run = 0; run < RUNS; run++) {
-            seed = run;
-            compare(check, run);
+            new ModelTest(check, run).compare();
         }
         check.finish();
     }
 
-    private static void compare(Check check, int run) {
+    private void compare() {
         EditGraph graph = new EditGraph();
         PlainModel model = new PlainModel();
         List<Call> edits = new ArrayList<>();
@@ -43,10 +31,10 @@ public final class ModelTest {
         int editShare = 5 + run % 8 * 10;
         for (int number = 1; number <= Questions.MOST_CALLS; number++) {
             Call call = drawCall(editShare, model);
-            String told = "run " + run + ", call " + number + ": " + call;
+            String told = "promise " + call.promise() + ", run " + run + ", call " + number + ": " + call;
             String due = call.answer(model);
             check.same(told, call.answer(graph), due);
-            if (EDITS.contains(call.name()) && !due.startsWith("throws.")) {
+            if (Call.EDITS.contains(call.name()) && !due.startsWith("throws.")) {
                 edits.add(call);
             }
             // All questions are dear to ask the model, so not behind every call.
@@ -57,33 +45,36 @@ public final class ModelTest {
         }
     }
 
-    private static Call drawCall(int editShare, PlainModel model) {
-        boolean edits = below(100) < editShare;
+    /** From 0 to bound - 1, but now and then one outside. */
+    private int about(int bound) {
+        switch (draw.below(40)) {
+            case 0: return -1;
+            case 1: return bound;
+            case 2: return draw.below(2) == 0 ? Integer.MIN_VALUE : Integer.MAX_VALUE;
+            default: return bound <= 0 ? 0 : draw.below(bound);
+        }
+    }
+
+    private Call drawCall(int editShare, PlainModel model) {
+        boolean edits = draw.below(100) < editShare;
         int author = about(4);
         int length = author >= 0 && author < 4 ? model.length(author) : 0;
-        String name = edits ? editName() : askName();
+        String name = edits ? editName() : Call.QUESTIONS.get(draw.below(Call.QUESTIONS.size()));
         return new Call(name, numbersFor(name, author, length, model.events()));
     }
 
-    private static String editName() {
-        int drawn = below(10);
+    private String editName() {
+        int drawn = draw.below(10);
         return drawn < 5 ? "insert" : drawn < 7 ? "delete" : drawn < 9 ? "learn" : "learnEvent";
     }
 
-    private static String askName() {
-        String[] names = {"events", "length", "letterAt", "letterByList", "eventAt", "lengthOf", "letterOf",
-            "lettersBy", "authorOf", "parents", "isLater", "version", "heads", "commonHeads", "concurrent",
-            "critical", "toReplay", "runs"};
-        return names[below(names.length)];
-    }
-
-    private static int[] numbersFor(String name, int author, int length, int events) {
+    private int[] numbersFor(String name, int author, int length, int events) {
         switch (name) {
             case "events":
                 return new int[] {};
             case "insert":
                 // Typing on at the end makes the longer runs.
-                return new int[] {author, below(2) == 0 ? length : about(length + 1), about(26)};
+                return new int[] {author, draw.below(2) == 0 ? length : about(length + 1), about(26)};
             case "delete":
             case "letterAt":
             case "letterByList":

@@ -83,6 +83,6 @@ final class Questions {
     }
 
     private static String told(Call question, Object asked) {
-        return question + " = " + question.answer(asked);
+        return "promise " + question.promise() + ", " + question + " = " + question.answer(asked);
     }
 }

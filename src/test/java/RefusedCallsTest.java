@@ -25,34 +25,11 @@ public final class RefusedCallsTest {
 
     public static void main(String[] args) {
         RefusedCallsTest test = new RefusedCallsTest();
-        test.lookAt("no event", "");
-        test.lookAt("one letter", "insert 0 0 7");
-        test.lookAt("an emptied text", "insert 0 0 7; delete 0 0");
-        test.lookAt("a fork", "insert 0 0 0; insert 0 1 1; learn 1 0; delete 0 0; insert 1 2 2; insert 1 1 3; learn 2 1;"
-            + "delete 2 1; learn 0 2; insert 0 1 4; insert 3 0 5");
-        test.lookAt("59 events in a row", inserts(59, 1));
-        test.lookAt("60 events in a row", inserts(60, 1));
-        test.lookAt("60 events in four rows", inserts(60, 4) + "; learn 3 0; learn 3 2");
-        test.lookAt("60 events, half of them deletes", insertsAndDeletes());
+        for (Graphs.Graph graph : Graphs.named()) {
+            test.lookAt(graph.name(), graph.calls());
+        }
         test.lookAtThe512thCall();
         test.check.finish();
-    }
-
-    private static String inserts(int events, int authors) {
-        StringBuilder calls = new StringBuilder();
-        for (int event = 0; event < events; event++) {
-            calls.append("; insert ").append(event % authors).append(' ').append(event / authors).append(" 7");
-        }
-        return calls.toString();
-    }
-
-    private static String insertsAndDeletes() {
-        StringBuilder calls = new StringBuilder();
-        for (int round = 0; round < 15; round++) {
-            calls.append("; insert 0 0 ").append(round).append("; learn 1 0; insert 1 1 ").append(round);
-            calls.append("; delete 1 0; learn 0 1; delete 0 0");
-        }
-        return calls.toString();
     }
 
     private static PlainModel modelAfter(List<Call> calls) {
@@ -63,8 +40,7 @@ public final class RefusedCallsTest {
         return model;
     }
 
-    private void lookAt(String state, String made) {
-        List<Call> ahead = Call.listOf(made);
+    private void lookAt(String state, List<Call> ahead) {
         PlainModel model = new PlainModel();
         for (Call call : ahead) {
             check.same(state + ": " + call + " throws", call.answer(model).startsWith("throws."), false);
@@ -133,7 +109,7 @@ public final class RefusedCallsTest {
 
         Behind(List<Call> ahead) {
             this.ahead = ahead;
-            List<Call> goneOn = joined(ahead, GOING_ON);
+            List<Call> goneOn = Graphs.joined(ahead, GOING_ON);
             atOnce = Questions.about(modelAfter(ahead).events());
             afterGoingOn = Questions.about(modelAfter(goneOn).events());
             dueAtOnce = Questions.answers(ahead, atOnce);
@@ -144,24 +120,18 @@ public final class RefusedCallsTest {
         void compare(String told, List<Call> refused, PlainModel model) {
             List<String> got = Questions.answers(ahead, refused);
             check.sameLines(told + "refused", got, Questions.modelAnswers(model, refused));
-            List<Call> withRefused = joined(ahead, refused);
+            List<Call> withRefused = Graphs.joined(ahead, refused);
             String behind = told + "behind " + refused.get(0) + " and its like";
             check.sameLines(behind + " at once", Questions.answers(withRefused, atOnce), dueAtOnce);
             check.sameLines(behind + " going on", Questions.answers(withRefused, GOING_ON), dueGoingOn);
-            List<Call> goneOn = joined(withRefused, GOING_ON);
+            List<Call> goneOn = Graphs.joined(withRefused, GOING_ON);
             check.sameLines(behind + " after going on", Questions.answers(goneOn, afterGoingOn), dueAfterGoingOn);
         }
     }
 
-    private static List<Call> joined(List<Call> one, List<Call> other) {
-        List<Call> both = new ArrayList<>(one);
-        both.addAll(other);
-        return both;
-    }
-
     /** The last call that is promised answers as any other one, the graph being full. */
     private void lookAtThe512thCall() {
-        List<Call> ahead = Call.listOf(inserts(60, 4) + "; learn 1 0; learn 1 2; learnEvent 2 59");
+        List<Call> ahead = Graphs.fullOfFourRows("learn 1 0; learn 1 2; learnEvent 2 59");
         List<Call> questions = Questions.about(60);
         while (ahead.size() < Questions.MOST_CALLS - 1) {
             ahead.add(questions.get(ahead.size() * 7));

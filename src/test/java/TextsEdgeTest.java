@@ -1,5 +1,5 @@
 /** The boundary cases of promises 7 to 13: texts. */
-public final class TextsEdgeTest extends EdgeCases {
+public final class TextsEdgeTest extends PromiseCases {
     private TextsEdgeTest() {
     }
 
@@ -32,7 +32,8 @@ public final class TextsEdgeTest extends EdgeCases {
 
     void promise7TheLongestTextHas60Letters() {
         asked().row(0, 60).due("length 0", 60);
-        asked().fullOfFourRows().due("length 0; length 3", 15).after("learn 2 0; learn 2 1; learn 2 3").due("length 2", 60);
+        asked().fullOfFourRows().due("length 0; length 3", 15).after("learn 2 0; learn 2 1; learn 2 3")
+            .due("length 2", 60);
     }
 
     // ---- promises 8 and 9: letterAt, letterByList

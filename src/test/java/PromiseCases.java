@@ -3,7 +3,7 @@ import java.lang.reflect.Method;
 import java.util.TreeMap;
 
 /** Runs each method of a test class whose name begins with the promise that it belongs to. */
-abstract class EdgeCases {
+abstract class PromiseCases {
     private final Check check = new Check();
     private String running = "";
 
