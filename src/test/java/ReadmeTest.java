@@ -79,8 +79,8 @@ public final class ReadmeTest {
                 lookAtRow(row);
             }
         }
-        check.same("README.md: number of calls told", found.size(), Call.NAMES.size() + 1);
-        check.same("README.md: calls told twice", found.size() - new TreeSet<>(found).size(), 0);
+        check.same("promises 1 to 23, README.md: number of calls told", found.size(), Call.NAMES.size() + 1);
+        check.same("promises 1 to 23, README.md: calls told twice", found.size() - new TreeSet<>(found).size(), 0);
     }
 
     /** Each argument of the call stands in the column that tells what it may be. */
