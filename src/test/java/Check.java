@@ -21,7 +21,7 @@ final class Check {
     void sameLines(String call, List<String> got, List<String> due) {
         same(call + ", number of answers", got.size(), due.size());
         for (int i = 0; i < Math.min(got.size(), due.size()); i++) {
-            same(call + ": " + due.get(i) + ",", got.get(i), due.get(i));
+            same(call, got.get(i), due.get(i));
         }
     }
 
